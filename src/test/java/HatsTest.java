@@ -68,6 +68,10 @@ public final class HatsTest {
         due.is("by the month", x.hats(-1), 0);
         Due.lawOf(x, "1");
         due.is("no way", x.hats(1), -2);
+        Due.lawOf(x, "h<2");
+        for (int p = 3; p < 7; p++) x.person(p, 40);
+        due.is("all seven", x.hats(-1), 7);
+        for (int p = 0; p < 7; p++) due.is("hat", x.hats(p), p < 3 ? 0 : 3);
     }
 
     /** Promise 19. */

@@ -8,6 +8,7 @@ public final class MonthsTest {
         image();
         undo();
         forty();
+        fortyOfMany();
         undoAndTurn();
         due.close();
     }
@@ -161,6 +162,24 @@ public final class MonthsTest {
         x.mend(0, 2, 1);
         due.is("count", x.count(4), 11);
         due.is("none", x.redo(), -5);
+    }
+
+    /** The oldest are forgotten whole: whose they were, and what. */
+    private static void fortyOfMany() {
+        TwoAlike x = new TwoAlike();
+        Model m = new Model();
+        for (int p = 0; p < 4; p++) due.is("person", x.person(p, p), m.person(p, p));
+        for (int k = 0; k < 57; k++) {
+            int what = k * 7 % 5;
+            int number = what < 3 ? k % 4 : 0;
+            int v = (m.of(number, what < 3 ? what : what + 7) + 1 + k % 2) % 7;
+            due.is("mend", x.mend(number, what, v), m.mend(number, what, v));
+        }
+        for (int k = 0; k < 41; k++) {
+            due.is("undo", x.undo(), m.undo());
+            for (int p = 0; p < 4; p++) for (int what = 0; what < 3; what++) due.is("of", x.of(p, what), m.of(p, what));
+            for (int what = 10; what < 12; what++) due.is("of", x.of(0, what), m.of(0, what));
+        }
     }
 
     /** A change undone or done again gives the number that was told, though months went since. */

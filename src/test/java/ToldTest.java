@@ -62,6 +62,10 @@ public final class ToldTest {
         due.is("minute", x.judge(0), 11);
         due.is("lesser", x.judge(1), 0);
         due.is("other", x.judge(2), 2);
+        x.go(2, 0, 2);
+        due.is("minute 0", x.judge(0), 0);
+        due.is("other", x.judge(2), 3);
+        x.go(2, 0, -1);
         Due.lawOf(x, "0");
         due.is("by the law", x.judge(0), -2);
     }
@@ -121,6 +125,9 @@ public final class ToldTest {
         due.is("six parts", x.atLeast(6), 2);
         due.is("five parts", x.atLeast(5), 3);
         due.is("no part is free", x.atLeast(0), 4);
+        TwoAlike ten = new TwoAlike();
+        for (int k = 0; k < 10; k++) ten.sight(10 + k % 5, k);
+        due.is("each another one", ten.atLeast(6), 10);
         TwoAlike y = new TwoAlike();
         y.sight(10, 0);
         y.sight(20, 7);
