@@ -35,13 +35,15 @@ public final class TwoAlike {
     }
 
     public int people(int shelf, int i, int n) {
-        if (!shelves.isShelf(shelf) || i < 0 || n < 1 || n > MOST_PEOPLE) return BAD;
+        if (!shelves.isShelf(shelf) || n < 1 || n > MOST_PEOPLE) return BAD;
         if (shelves.isBare(shelf)) return 0;
         if (!shelves.isRowOf(shelf, Shelves.BYTES)) return OTHER_KIND;
         return comeFromRow(shelf, i, n);
     }
 
+    /** A place that is not there, ahead of the row too, is where the row ends: nobody comes from it. */
     private int comeFromRow(int shelf, int i, int n) {
+        if (i < 0) return 0;
         int size = shelves.sizeOf(shelf);
         int came = 0;
         for (int at = i; at < size - 1 && came < n; at += 2) {

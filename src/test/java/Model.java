@@ -58,7 +58,7 @@ final class Model {
     }
 
     int people(int shelf, int i, int n) {
-        if (shelf < 0 || shelf > 5 || i < 0 || n < 1 || n > 7) return BAD;
+        if (shelf < 0 || shelf > 5 || n < 1 || n > 7) return BAD;
         Object o = shelves[shelf];
         if (o != null && !(o instanceof byte[])) return -12;
         int came = 0;

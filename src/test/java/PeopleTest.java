@@ -91,16 +91,23 @@ public final class PeopleTest {
         due.is("shelf", x.people(6, 0, 1), -1);
         due.is("n", x.people(2, 0, 0), -1);
         due.is("n", x.people(2, 0, 8), -1);
-        due.is("i", x.people(2, -1, 1), -1);
+        due.is("ahead of the row", x.people(2, -1, 1), 0);
+        due.is("a two ahead of the row", x.people(2, -2, 2), 0);
+        due.is("far ahead of the row", x.people(2, Integer.MIN_VALUE, 7), 0);
+        due.is("ahead of the row, n", x.people(2, -1, 0), -1);
+        due.is("ahead, nothing there", x.people(3, -1, 1), 0);
+        due.is("far behind, nothing there", x.people(3, Integer.MAX_VALUE, 1), 0);
         due.is("missing", x.people(3, 0, 7), 0);
         due.is("n, nothing there", x.people(3, 0, 8), -1);
         for (int sort = 1; sort <= 4; sort++) {
             x.row(4, sort, 8);
             due.is("row of " + sort, x.people(4, 0, 1), -12);
+            due.is("ahead of a row of " + sort, x.people(4, -1, 1), -12);
         }
         x.body(0);
         x.keep(4, 0);
         due.is("twin", x.people(4, 0, 1), -12);
+        due.is("ahead, twin", x.people(4, -1, 1), -12);
         due.is("count", x.count(0), 0);
     }
 
