@@ -1,5 +1,7 @@
 /** Counts and prints the answers that are not the ones that are due. */
 final class Due {
+    private static final int MOST_PRINTED = 100;
+
     private final String name;
     private int asked;
     private int wrong;
@@ -12,7 +14,7 @@ final class Due {
         asked++;
         if (got == want) return;
         wrong++;
-        System.out.println(name + ": " + call + " answered " + got + ", due is " + want);
+        if (wrong <= MOST_PRINTED) System.out.println(name + ": " + call + " answered " + got + ", due is " + want);
     }
 
     void holds(String what, boolean so) {

@@ -1,5 +1,3 @@
-import java.util.List;
-
 /** Promises 9 to 11 and the law's text at their edges. */
 public final class LawBoundsTest {
     private static final Due due = new Due("LawBoundsTest");
@@ -40,8 +38,8 @@ public final class LawBoundsTest {
 
     /** Whether two are alike by a text: looks 12 and 5 (d 2, a 5, b 12), a hat 0, month 9, ease 4. */
     private static void alikeBy(String name, String text, int want) {
-        run(name + ": " + text, "person(12, 1) = 0", "person(5, 0) = 1", "mend(0, 4, 9) = 0", "mend(0, 3, 4) = 0", "say '" + text + "'",
-            "alike(1) = " + want, "alike(10) = " + want);
+        run(name + ": " + text, "person(12, 1) = 0", "person(5, 0) = 1", "mend(0, 4, 9) = 0", "mend(0, 3, 4) = 0",
+            "say '" + text + "'", "alike(1) = " + want, "alike(10) = " + want);
     }
 
     private static void feed() {
@@ -53,19 +51,25 @@ public final class LawBoundsTest {
     }
 
     private static void tapeIsFull() {
-        run("9: the last one comes, one more not", Script.each(1, 120, "feed('d') = #"), "feed('d') ! FULL", "count(3) = 120");
-        run("9: BAD ahead of FULL", Script.times(120, "feed('1')"), "feed(256) ! BAD", "feed(-1) ! BAD", "feed(0) ! FULL", "feed(255) ! FULL");
-        run("9: empty behind a law", Script.times(120, "feed('d')"), "law() = -101", Script.each(1, 120, "feed('1') = #"), "feed('1') ! FULL");
+        run("9: the last one comes, one more not", Script.each(1, 120, "feed('d') = #"), "feed('d') ! FULL",
+            "count(3) = 120");
+        run("9: BAD ahead of FULL", Script.times(120, "feed('1')"), "feed(256) ! BAD", "feed(-1) ! BAD",
+            "feed(0) ! FULL", "feed(255) ! FULL");
+        run("9: empty behind a law", Script.times(120, "feed('d')"), "law() = -101",
+            Script.each(1, 120, "feed('1') = #"), "feed('1') ! FULL");
     }
 
     private static void lawIsLed() {
-        run("10: an empty tape", "law() ! -100", "feed('1') = 1", "law() = 1", "law() ! -100", "person(0, 0)", "person(63, 0)", "alike(1) = 1");
-        run("10: a fault leaves the law", "person(0, 0)", "person(63, 0)", "say '1'", "say '0)' = -101", "alike(1) = 1", "say '' = -100", "alike(1) = 1",
-            "say '0'", "alike(1) = 0");
-        run("10: a fault leaves no law too", "person(0, 0)", "person(63, 0)", "say '1)' = -101", "alike(1) = 0", "mend(0, 3, 6)", "alike(1) = 1");
-        run("10: a fault empties the tape", "feed('1')", "feed(';')", "law() = -102", "count(3) = 0", "feed('0')", "law() = 1", "person(0, 0)",
+        run("10: an empty tape", "law() ! -100", "feed('1') = 1", "law() = 1", "law() ! -100", "person(0, 0)",
+            "person(63, 0)", "alike(1) = 1");
+        run("10: a fault leaves the law", "person(0, 0)", "person(63, 0)", "say '1'", "say '0)' = -101", "alike(1) = 1",
+            "say '' = -100", "alike(1) = 1", "say '0'", "alike(1) = 0");
+        run("10: a fault leaves no law too", "person(0, 0)", "person(63, 0)", "say '1)' = -101", "alike(1) = 0",
+            "mend(0, 3, 6)", "alike(1) = 1");
+        run("10: a fault empties the tape", "feed('1')", "feed(';')", "law() = -102", "count(3) = 0", "feed('0')",
+            "law() = 1", "person(0, 0)", "person(0, 0)", "alike(1) = 0");
+        run("10: what came behind a fault is gone", "say 'x1' = -100", "feed('0')", "law() = 1", "person(0, 0)",
             "person(0, 0)", "alike(1) = 0");
-        run("10: what came behind a fault is gone", "say 'x1' = -100", "feed('0')", "law() = 1", "person(0, 0)", "person(0, 0)", "alike(1) = 0");
     }
 
     private static void faultsOfLines() {
@@ -130,7 +134,8 @@ public final class LawBoundsTest {
             boolean ends = "dabhme0123456789".indexOf(letter) >= 0;
             run("10: a byte " + letter, "feed(" + letter + ") = 1", "law() = " + (ends ? 1 : starts ? -101 : -100));
             boolean goesOn = "|&<=>+-*/%?;".indexOf(letter) >= 0;
-            run("10: a byte " + letter + " behind d", "feed('d')", "feed(" + letter + ") = 2", "law() = " + (goesOn ? -102 : -101));
+            run("10: a byte " + letter + " behind d", "feed('d')", "feed(" + letter + ") = 2",
+                "law() = " + (goesOn ? -102 : -101));
         }
         fault("a blank ahead", " d", 0);
         fault("a blank between", "d <1", 1);
@@ -160,6 +165,10 @@ public final class LawBoundsTest {
         fault("brackets stay open", "(!!!!!d+!!!!!!d)", 13);
         fault("behind ; all is closed", "!!!!!!d;((((((d))))))", -1);
         fault("behind ? all is closed", "!!!!!!d?((((((d))))))", -1);
+        fault("behind ; seven (", "d;(((((((d)))))))", 8);
+        fault("behind ? seven (", "d?(((((((d)))))))", 8);
+        fault("behind ? seven !", "d?!!!!!!!d", 8);
+        fault("ahead of ? seven -", "-------d?d", 6);
     }
 
     private static void faultsOfComparisons() {
@@ -183,12 +192,12 @@ public final class LawBoundsTest {
         fault("120 bytes, and it ends too early", "1+".repeat(60), 120);
         fault("120 bytes, and the last one is a fault", "1+".repeat(59) + "1)", 119);
         fault("119 bytes", "1+".repeat(59) + "1", -1);
-        run("10: the last step of the longest text counts", "person(0, 0)", "person(0, 0)", "say '" + "1-".repeat(58) + "1+57'", "alike(1) = 0",
-            "say '" + "1-".repeat(58) + "1+56'", "alike(1) = 1");
-        run("10: as many operands as fit", "person(0, 0)", "person(0, 0)", "say '" + "0|".repeat(59) + "1'", "alike(1) = 1", "say '" + "0|".repeat(59) + "0'",
-            "alike(1) = 0");
-        run("10: the last of most lines", "person(0, 0)", "person(0, 0)", "say '" + "0?1;".repeat(29) + "1'", "alike(1) = 1", "say '" + "0?1;".repeat(29) + "0?1'",
-            "alike(1) = 0");
+        run("10: the last step of the longest text counts", "person(0, 0)", "person(0, 0)",
+            "say '" + "1-".repeat(58) + "1+57'", "alike(1) = 0", "say '" + "1-".repeat(58) + "1+56'", "alike(1) = 1");
+        run("10: as many operands as fit", "person(0, 0)", "person(0, 0)", "say '" + "0|".repeat(59) + "1'",
+            "alike(1) = 1", "say '" + "0|".repeat(59) + "0'", "alike(1) = 0");
+        run("10: the last of most lines", "person(0, 0)", "person(0, 0)", "say '" + "0?1;".repeat(29) + "1'",
+            "alike(1) = 1", "say '" + "0?1;".repeat(29) + "0?1'", "alike(1) = 0");
     }
 
     private static void numbersThatWrap() {
@@ -226,8 +235,10 @@ public final class LawBoundsTest {
     }
 
     private static void truths() {
-        for (String so : List.of("(0|0)=0", "(0|5)=1", "(-5|0)=1", "(0&5)=0", "(5&0)=0", "(5&7)=1", "(2<3)=1", "(3<3)=0", "(4<3)=0",
-            "(2=3)=0", "(3=3)=1", "(2>3)=0", "(3>3)=0", "(4>3)=1", "!0=1", "!1=0", "!5=0", "!-1=0", "!!5=1", "-(2<3)=-1", "5=5", "(5)=5", "-5<-4")) {
+        String[] holding = {"(0|0)=0", "(0|5)=1", "(-5|0)=1", "(0&5)=0", "(5&0)=0", "(5&7)=1", "(2<3)=1", "(3<3)=0",
+            "(4<3)=0", "(2=3)=0", "(3=3)=1", "(2>3)=0", "(3>3)=0", "(4>3)=1", "!0=1", "!1=0", "!5=0", "!-1=0", "!!5=1",
+            "-(2<3)=-1", "5=5", "(5)=5", "-5<-4"};
+        for (String so : holding) {
             alikeBy("2: gives 1, 0", so, 1);
         }
         alikeBy("2: not 0 is alike", "2", 1);
@@ -258,38 +269,48 @@ public final class LawBoundsTest {
 
     private static void names() {
         for (int e = 0; e <= 6; e += 6) {
-            run("2: e " + e, "person(0, 0)", "person(0, 0)", "mend(0, 3, " + e + ")", "say 'e=" + e + "'", "alike(1) = 1");
+            run("2: e " + e, "person(0, 0)", "person(0, 0)", "mend(0, 3, " + e + ")", "say 'e=" + e + "'",
+                "alike(1) = 1");
         }
         for (int m = 0; m <= 11; m += 11) {
-            run("2: m " + m, "person(0, 0)", "person(0, 0)", "mend(0, 4, " + m + ")", "say 'm=" + m + "'", "alike(1) = 1");
+            run("2: m " + m, "person(0, 0)", "person(0, 0)", "mend(0, 4, " + m + ")", "say 'm=" + m + "'",
+                "alike(1) = 1");
         }
         run("2: d 0", "person(63, 0)", "person(63, 0)", "say 'd=0'", "alike(1) = 1");
         run("2: d 6", "person(63, 0)", "person(0, 0)", "say 'd=6'", "alike(1) = 1");
-        run("2: a and b, least and greatest", "person(63, 0)", "person(0, 0)", "say 'a=0&b=63'", "alike(1) = 1", "alike(10) = 1");
+        run("2: a and b, least and greatest", "person(63, 0)", "person(0, 0)", "say 'a=0&b=63'", "alike(1) = 1",
+            "alike(10) = 1");
         run("2: a and b, the same", "person(9, 0)", "person(9, 0)", "say 'a=9&b=9'", "alike(1) = 1");
-        run("2: h 0, 1, 2", "person(1, 1)", "person(2, 1)", "say 'h=0'", "alike(1) = 1", "hat(0, 0)", "say 'h=1'", "alike(1) = 1", "hat(1, 0)",
-            "say 'h=2'", "alike(1) = 1", "hat(0, -1)", "alike(1) = 0", "say 'h=1'", "alike(1) = 1");
-        run("2: looks as they are seen", "person(1, 1)", "person(2, 4)", "hat(0, 0)", "hat(1, 2)", "say 'a=0&b=6&d=2'", "alike(1) = 1");
-        run("2: by numbers, none of anybody's place", "person(9, 0)", "person(3, 0)", "say 'a=3&b=9'", "alike(1) = 1", "alike(10) = 1");
+        run("2: h 0, 1, 2", "person(1, 1)", "person(2, 1)", "say 'h=0'", "alike(1) = 1", "hat(0, 0)", "say 'h=1'",
+            "alike(1) = 1", "hat(1, 0)", "say 'h=2'", "alike(1) = 1", "hat(0, -1)", "alike(1) = 0", "say 'h=1'",
+            "alike(1) = 1");
+        run("2: looks as they are seen", "person(1, 1)", "person(2, 4)", "hat(0, 0)", "hat(1, 2)", "say 'a=0&b=6&d=2'",
+            "alike(1) = 1");
+        run("2: by numbers, none of anybody's place", "person(9, 0)", "person(3, 0)", "say 'a=3&b=9'", "alike(1) = 1",
+            "alike(10) = 1");
     }
 
     private static void withoutText() {
         for (int ease = 0; ease <= 6; ease++) {
             int all = (1 << ease) - 1;
-            run("2: without a text, ease " + ease, "mend(0, 3, " + ease + ")", "person(0, 0)", "person(" + all + ", 0)", "person(" + Math.min(63, all * 2 + 1) + ", 0)",
-                "alike(1) ! 1", "alike(2) ! " + (ease == 6 ? 1 : 0));
+            run("2: without a text, ease " + ease, "mend(0, 3, " + ease + ")", "person(0, 0)", "person(" + all + ", 0)",
+                "person(" + Math.min(63, all * 2 + 1) + ", 0)", "alike(1) ! 1", "alike(2) ! " + (ease == 6 ? 1 : 0));
         }
-        run("2: ease does not count once a text came", "person(0, 0)", "person(63, 0)", "mend(0, 3, 6)", "alike(1) = 1", "say 'd<6'", "alike(1) = 0");
+        run("2: ease does not count once a text came", "person(0, 0)", "person(63, 0)", "mend(0, 3, 6)", "alike(1) = 1",
+            "say 'd<6'", "alike(1) = 0");
     }
 
     private static void alike() {
         inRich("11: one and the same", Script.each(0, 2, "alike(##) ! BAD"));
-        inRich("11: nobody", "alike(3) ! BAD", "alike(30) ! BAD", "alike(13) ! BAD", "alike(31) ! BAD", "alike(9) ! BAD", "alike(90) ! BAD");
-        inRich("11: no two", "alike(-1) ! BAD", "alike(-10) ! BAD", "alike(-12) ! BAD", "alike(100) ! BAD", "alike(101) ! BAD", "alike(112) ! BAD",
-            "alike(MIN) ! BAD", "alike(MAX) ! BAD");
-        run("11: the first and the last two", Script.each(0, 6, "person(#, 0) = #"), "alike(1) ! 0", "alike(10) ! 0", "alike(56) ! 0", "alike(65) ! 0",
-            "alike(6) ! 0", "alike(60) ! 0", "alike(67) ! BAD", "alike(76) ! BAD", "alike(77) ! BAD", "alike(66) ! BAD");
+        inRich("11: nobody", "alike(3) ! BAD", "alike(30) ! BAD", "alike(13) ! BAD", "alike(31) ! BAD",
+            "alike(9) ! BAD", "alike(90) ! BAD");
+        inRich("11: no two", "alike(-1) ! BAD", "alike(-10) ! BAD", "alike(-12) ! BAD", "alike(100) ! BAD",
+            "alike(101) ! BAD", "alike(112) ! BAD", "alike(MIN) ! BAD", "alike(MAX) ! BAD");
+        run("11: the first and the last two", Script.each(0, 6, "person(#, 0) = #"), "alike(1) ! 0", "alike(10) ! 0",
+            "alike(56) ! 0", "alike(65) ! 0", "alike(6) ! 0", "alike(60) ! 0", "alike(67) ! BAD", "alike(76) ! BAD",
+            "alike(77) ! BAD", "alike(66) ! BAD");
         run("11: one alone", "person(0, 0)", "alike(0) ! BAD", "alike(1) ! BAD", "alike(10) ! BAD");
-        run("11: just alike, just not", "person(0, 0)", "person(7, 0)", "mend(0, 3, 3)", "alike(1) ! 1", "mend(0, 3, 2)", "alike(1) ! 0");
+        run("11: just alike, just not", "person(0, 0)", "person(7, 0)", "mend(0, 3, 3)", "alike(1) ! 1",
+            "mend(0, 3, 2)", "alike(1) ! 0");
     }
 }

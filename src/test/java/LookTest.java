@@ -23,7 +23,8 @@ public final class LookTest {
         for (String call : new String[] {"needs()", "image()"}) {
             due.holds(call + " twice is seen as nothing", !Script.changes(List.of("image()"), call));
         }
-        due.holds("the image is seen", Script.changes(List.of("person(1, 1)", "go(0, 3, 1)", "image()", "go(0, 3, -1)"), "image()"));
+        List<String> imageOfOut = List.of("person(1, 1)", "go(0, 3, 1)", "image()", "go(0, 3, -1)");
+        due.holds("the image is seen", Script.changes(imageOfOut, "image()"));
         due.close();
     }
 }
