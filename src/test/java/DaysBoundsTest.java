@@ -18,6 +18,7 @@ public final class DaysBoundsTest {
         bars();
         barsNobody();
         barsWhoIsBarred();
+        barsWhoWouldBeBarred();
         led();
         ledAsItWasTold();
         asksChangeNothing();
@@ -211,6 +212,14 @@ public final class DaysBoundsTest {
             "waited(2, 1) = 1", "bars(2) ! 0", "clear(2)", errands(2, 6, 1), "bars(2) ! 1");
         run("16: barred without either", "person(1, 0)", "person(2, 0)", "person(0, 0)", "mend(0, 3, 1)",
             errands(0, 6, 6, 6, 6), errands(1, 6, 6, 6, 6), errands(2, 6, 6), "waited(2, 1) = 1", "bars(2) ! NOT");
+    }
+
+    /** WAITED of one who is BARRED is 0: less than what it waited with the first ahead of it. */
+    private static void barsWhoWouldBeBarred() {
+        run("16: barred without the first", "person(5, 0)", "person(1, 0)", "person(2, 0)", "person(0, 0)",
+            "mend(0, 3, 1)", errands(0, 6, 6, 1), errands(1, 6, 6), errands(2, 1), errands(3, 6, 6, 16, 16),
+            "waited(3, 0) = 1", "waited(3, 1) = 0", "bars(3) ! 0", "clear(0) = 3", "waited(3, 0) = 0",
+            "waited(3, 1) = 1");
     }
 
     private static void led() {
